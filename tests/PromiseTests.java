@@ -554,6 +554,14 @@ public final class PromiseTests {
         x.look(0);
         due("25 keep anew", x.keep(0), 1);
         due("26 anew", x.again(0), 1);
+        x = made(SHIP);
+        x.hear(2, 3, 8);
+        x.keep(0);
+        x.undo();
+        x.hear(5, 9, 2);
+        due("26 another said it meanwhile", x.said(0), -7);
+        x.again(0);
+        due("26 who said it is kept", x.said(0), 7);
     }
 
     private static void count() {
