@@ -73,7 +73,7 @@ public final class ActEdgeTests {
     }
 
     private static void tideAtEnds() {
-        Check.sentence("on by ON (.. from 9 it stays), back by BACK (from 0 it stays), what is left of 10 stays");
+        Check.sentence("from 9 it stays), back by BACK (from 0 it stays), what is left of 10 stays");
         GoneOverboard x = Check.made("S000002F01F41F91A1");
         x.look(0);
         Check.weights("no tide", x, 100, 0, 0, 0, 100, 0, 0, 0, 0, 100, 100);

@@ -318,7 +318,7 @@ public final class DrawEdgeTests {
     }
 
     private static void shipInTrials() {
-        Check.sentence("THE SHIP from BEGIN (no farther than 0, 9)");
+        Check.sentence("as above, THE SHIP from BEGIN .. (no farther than 0, 9)");
         trial("S009992F91", 2, 11, true, 0, 9, 0, 0);
         trial("S009902F01", 2, 22, true, 0, 9, 0, 0);
         trial("S009903F01", 3, 212, true, 0, 9, 0, 0, 0, 8);
