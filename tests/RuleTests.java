@@ -108,6 +108,8 @@ public final class RuleTests {
         must(own <= 20, type + " has twenty fields at most");
         for (Method method : type.getDeclaredMethods()) {
             must(method.getParameterCount() <= 7, method + " takes seven at most");
+            must(!Modifier.isPrivate(method.getModifiers()) || !FACE.contains(" " + method.getName() + "("),
+                    method + " does not bear a public name");
         }
         for (Class<?> inner : type.getDeclaredClasses()) {
             must(Modifier.isStatic(inner.getModifiers()), inner + " is static");
