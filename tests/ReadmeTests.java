@@ -19,7 +19,7 @@ public final class ReadmeTests {
     private static final Path README = Path.of("README.md");
     private static final Path MADE = Path.of("build/readme");
     private static final Pattern SHOWN = Pattern.compile("x\\.(\\w+)\\((.*)\\); +// (-?\\d+)(:? .*)?");
-    private static final Pattern FILE = Pattern.compile("`((?:tests|src|\\.\\./shared)/[\\w./]+\\.\\w+)`");
+    private static final Pattern FILE = Pattern.compile("`((?:tests|src)/[\\w./]+\\.\\w+)`");
 
     private static int wrong = 0;
 
